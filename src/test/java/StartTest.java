@@ -1,0 +1,89 @@
+/** Promises 1 and 2: a new object, open. */
+public final class StartTest {
+    private StartTest() {
+    }
+
+    public static void main(String[] args) {
+        newObject();
+        openEachNumber();
+        openForgetsAll();
+        openRefuses();
+        Check.end();
+    }
+
+    private static void newObject() {
+        DotGossip x = new DotGossip();
+        Check.due("new: replicas", x.message(0, DotGossip.NONE), 2);
+        Check.due("new: messages", x.message(0, -2), 0);
+        hasNothing("new", x, 2);
+        Check.illegal("new: replica 2", y -> { }, y -> y.vector(2, 0));
+        Check.alike("new is as open(2)", y -> { }, y -> y.open(2));
+    }
+
+    private static void hasNothing(String when, DotGossip x, int replicas) {
+        for (int r = 0; r < replicas; r++) {
+            for (int k = 0; k < 4; k++) {
+                Check.due(when + ": size", x.size(r, k), 0);
+                Check.due(when + ": values", x.values(r, k), 0);
+                Check.due(when + ": total", x.total(r, k), 0);
+            }
+            for (int of = 0; of < replicas; of++) {
+                Check.due(when + ": vector", x.vector(r, of), 0);
+                Check.due(when + ": same", x.same(r, of), true);
+            }
+        }
+    }
+
+    private static void openEachNumber() {
+        for (int n = 2; n <= 6; n++) {
+            int replicas = n;
+            DotGossip x = new DotGossip();
+            x.open(n);
+            Check.due("open: replicas", x.message(0, DotGossip.NONE), n);
+            hasNothing("open(" + n + ")", x, n);
+            Check.due("open: the last replica adds", x.add(n - 1, 0, 0), 1);
+            Check.illegal("open: replica n", y -> y.open(replicas), y -> y.add(replicas, 0, 0));
+        }
+    }
+
+    private static void openForgetsAll() {
+        Check.Run full = y -> {
+            y.open(6);
+            for (int r = 0; r < 6; r++) {
+                y.add(r, r % 4, 15 - r);
+                y.write(r, r % 4, r + 7);
+                y.count(r, r % 4, 9);
+                y.count(r, r % 4, -4);
+                y.gossip(r, (r + 1) % 6);
+            }
+            for (int k = 0; k < 3; k++) {
+                y.deliver(0);
+            }
+        };
+        for (int n = 2; n <= 6; n++) {
+            int replicas = n;
+            Check.alike("open(" + n + ") forgets all", y -> {
+                full.on(y);
+                y.open(replicas);
+            }, y -> y.open(replicas));
+            // A replica that is shut and opened again has nothing, too.
+            Check.alike("open(2), open(" + n + ") forget all", y -> {
+                full.on(y);
+                y.open(2);
+                y.open(replicas);
+            }, y -> y.open(replicas));
+        }
+        Check.unlike("the full object is no new one", full, y -> y.open(6));
+    }
+
+    private static void openRefuses() {
+        Check.Run some = y -> {
+            y.open(3);
+            y.add(2, 1, 4);
+            y.gossip(2, 0);
+        };
+        for (int n : new int[] {1, 0, -1, -2, 7, 8, Integer.MAX_VALUE, Integer.MIN_VALUE}) {
+            Check.illegal("open(" + n + ")", some, y -> y.open(n));
+        }
+    }
+}

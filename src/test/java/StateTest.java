@@ -1,0 +1,152 @@
+/** Promises 19 and 20: vector, same. */
+public final class StateTest {
+    private StateTest() {
+    }
+
+    public static void main(String[] args) {
+        vectorTellsWhatWasSeen();
+        vectorNeverFalls();
+        sameWithNothing();
+        eachDifferenceCounts();
+        equalLooksAreNotEnough();
+        sameAfterGossip();
+        wrongInputs();
+        Check.end();
+    }
+
+    private static void some(DotGossip x) {
+        x.open(3);
+        x.add(0, 0, 0);
+        x.write(1, 0, 3);
+        x.gossip(1, 0);
+        x.deliver(0);
+        x.gossip(0, 2);
+    }
+
+    private static void vectorTellsWhatWasSeen() {
+        DotGossip x = new DotGossip();
+        some(x);
+        int[][] due = {{1, 1, 0}, {0, 1, 0}, {0, 0, 0}};
+        for (int r = 0; r < 3; r++) {
+            for (int of = 0; of < 3; of++) {
+                Check.due("vector(" + r + ", " + of + ")", x.vector(r, of), due[r][of]);
+            }
+        }
+        x.deliver(0);
+        Check.due("by way of another", x.vector(2, 1), 1);
+        x.remove(0, 0, 0);
+        Check.due("removed dots were seen", x.vector(0, 0), 1);
+    }
+
+    private static void vectorNeverFalls() {
+        DotGossip x = new DotGossip();
+        x.add(0, 0, 0);
+        x.gossip(0, 1);
+        x.add(0, 0, 0);
+        x.gossip(0, 1);
+        x.deliver(1);
+        x.deliver(0);
+        Check.due("the greater one", x.vector(1, 0), 2);
+        Check.due("the later dot alone", x.dot(1, 0, 0, 0, 1), 2);
+        Check.due("no earlier one", x.dot(1, 0, 0, 1, 1), DotGossip.NONE);
+    }
+
+    private static void sameWithNothing() {
+        DotGossip x = new DotGossip();
+        x.open(6);
+        for (int r = 0; r < 6; r++) {
+            for (int o = 0; o < 6; o++) {
+                Check.due("same", x.same(r, o), true);
+            }
+        }
+        x.add(3, 0, 0);
+        Check.due("itself", x.same(3, 3), true);
+        Check.due("another", x.same(3, 2), false);
+        Check.due("the other way round", x.same(2, 3), false);
+        Check.due("two others", x.same(2, 4), true);
+    }
+
+    private static void eachDifferenceCounts() {
+        differs("an element", x -> x.add(1, 3, 15));
+        differs("a value", x -> x.write(1, 3, 0));
+        differs("the vector alone", x -> {
+            x.add(1, 0, 0);
+            x.remove(1, 0, 0);
+        });
+        differs("what was added", x -> x.count(1, 3, 1));
+        differs("what was taken", x -> x.count(1, 3, -1));
+        differs("added and taken, the same", x -> {
+            x.count(1, 0, 5);
+            x.count(1, 0, -5);
+        });
+        differs("added beyond 32 bits", x -> {
+            x.count(1, 0, Integer.MAX_VALUE);
+            x.count(1, 0, Integer.MAX_VALUE);
+            x.count(1, 0, 2);
+        });
+        DotGossip x = new DotGossip();
+        x.count(1, 0, 0);
+        Check.due("nothing counted", x.same(0, 1), true);
+        x.remove(1, 0, 0);
+        x.clear(1, 0);
+        Check.due("nothing removed", x.same(0, 1), true);
+    }
+
+    private static void differs(String what, Check.Run change) {
+        DotGossip x = new DotGossip();
+        change.on(x);
+        Check.due(what, x.same(0, 1), false);
+        Check.due(what + ", the other way round", x.same(1, 0), false);
+    }
+
+    /** The same elements, values and totals, but by other dots or other replicas' counts. */
+    private static void equalLooksAreNotEnough() {
+        differs("other dots", x -> {
+            x.add(0, 0, 0);
+            x.add(1, 0, 0);
+        });
+        differs("other counts", x -> {
+            x.count(0, 0, 4);
+            x.count(1, 0, 4);
+        });
+        differs("the same vector, but a removed element", x -> {
+            x.add(0, 0, 0);
+            x.gossip(0, 1);
+            x.deliver(0);
+            x.remove(0, 0, 0);
+        });
+    }
+
+    private static void sameAfterGossip() {
+        DotGossip x = new DotGossip();
+        x.open(3);
+        for (int r = 0; r < 3; r++) {
+            x.add(r, 0, 1);
+            x.write(r, 1, r);
+            x.count(r, 2, r + 1);
+            x.count(r, 2, -1);
+        }
+        int[][] ways = {{0, 1}, {1, 2}, {2, 0}, {0, 1}};
+        for (int[] way : ways) {
+            x.gossip(way[0], way[1]);
+            x.deliver(0);
+        }
+        Check.due("0 and 1", x.same(0, 1), true);
+        Check.due("1 and 2", x.same(1, 2), true);
+        x.write(1, 1, 5);
+        x.gossip(1, 2);
+        x.deliver(0);
+        Check.due("0 and 2", x.same(0, 2), false);
+        Check.due("1 and 2 again", x.same(1, 2), true);
+    }
+
+    private static void wrongInputs() {
+        for (int r : new int[] {-1, 3, 5, 6, Integer.MAX_VALUE, Integer.MIN_VALUE}) {
+            Check.illegal("vector of " + r, StateTest::some, x -> x.vector(r, 0));
+            Check.illegal("vector for " + r, StateTest::some, x -> x.vector(0, r));
+            Check.illegal("same, replica " + r, StateTest::some, x -> x.same(r, 0));
+            Check.illegal("same, other " + r, StateTest::some, x -> x.same(0, r));
+            Check.illegal("same, both " + r, StateTest::some, x -> x.same(r, r));
+        }
+    }
+}
