@@ -92,8 +92,8 @@ public final class DotGossip {
         if (by >= 0) {
             own.added[row] += by;
         } else {
-            // Widened first, for the lowest int has no int of the other sign.
-            own.taken[row] -= (long) by;
+            // Subtracted from the long, since the lowest int has no int of the other sign.
+            own.taken[row] -= by;
         }
         return own.worth(counter);
     }

@@ -13,6 +13,7 @@ public final class SetTest {
         removeTellsDots();
         removeMakesNoDot();
         clearTellsElements();
+        clearStaysInItsSet();
         everyElementIsItsOwn();
         dotsInOrder();
         dotWithoutSuch();
@@ -98,6 +99,22 @@ public final class SetTest {
         }
         Check.due("size of a full set", x.size(1, 3), 16);
         Check.due("clear of a full set", x.clear(1, 3), 16);
+    }
+
+    private static void clearStaysInItsSet() {
+        for (int s = 0; s < 4; s++) {
+            DotGossip x = new DotGossip();
+            for (int k = 0; k < 4; k++) {
+                x.add(0, k, 0);
+                x.add(0, k, 15);
+                x.write(0, k, 1);
+            }
+            Check.due("clear", x.clear(0, s), 2);
+            for (int k = 0; k < 4; k++) {
+                Check.due("size", x.size(0, k), k == s ? 0 : 2);
+                Check.due("values", x.values(0, k), 1);
+            }
+        }
     }
 
     private static void everyElementIsItsOwn() {
