@@ -39,6 +39,17 @@ final class Check {
         }
     }
 
+    /** The call behind a run throws nothing. */
+    static void allowed(String call, Run before, Run last) {
+        DotGossip x = new DotGossip();
+        before.on(x);
+        Class<?> thrown = thrownBy(last, x);
+        if (thrown != null) {
+            wrong++;
+            System.out.println(call + " threw " + thrown + ", due is an answer");
+        }
+    }
+
     /** The call behind a run throws IllegalArgumentException and changes nothing. */
     static void illegal(String call, Run before, Run last) {
         refused(call, before, last, IllegalArgumentException.class);

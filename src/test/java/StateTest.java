@@ -9,6 +9,8 @@ public final class StateTest {
         sameWithNothing();
         eachDifferenceCounts();
         equalLooksAreNotEnough();
+        eachPlaceCountsAlone();
+        eachRemovedDotCountsAlone();
         sameAfterGossip();
         wrongInputs();
         Check.end();
@@ -115,6 +117,66 @@ public final class StateTest {
             x.deliver(0);
             x.remove(0, 0, 0);
         });
+    }
+
+    /** One difference at the first, the last and every other place, made by each replica. */
+    private static void eachPlaceCountsAlone() {
+        for (int m = 0; m < 6; m++) {
+            int maker = m;
+            for (int k = 0; k < 4; k++) {
+                int which = k;
+                differsUntilTold("a value", m, x -> x.write(maker, which, 0));
+                differsUntilTold("what was added", m, x -> x.count(maker, which, 1));
+                differsUntilTold("what was taken", m, x -> x.count(maker, which, -1));
+                for (int e = 0; e < 16; e++) {
+                    int element = e;
+                    differsUntilTold("an element", m, x -> x.add(maker, which, element));
+                }
+            }
+            differsUntilTold("the vector alone", m, x -> {
+                x.add(maker, 0, 0);
+                x.remove(maker, 0, 0);
+            });
+        }
+    }
+
+    /** The maker differs from the others, then who was told does, until all are told. */
+    private static void differsUntilTold(String what, int maker, Check.Run change) {
+        DotGossip x = new DotGossip();
+        x.open(6);
+        change.on(x);
+        int told = (maker + 1) % 6;
+        int other = (maker + 5) % 6;
+        Check.due(what + ": maker and other", x.same(maker, other), false);
+        Check.due(what + ": other and maker", x.same(other, maker), false);
+        x.gossip(maker, told);
+        x.deliver(0);
+        Check.due(what + ": maker and told", x.same(maker, told), true);
+        Check.due(what + ": told and other", x.same(told, other), false);
+        Check.due(what + ": other and told", x.same(other, told), false);
+        x.gossip(told, other);
+        x.deliver(0);
+        Check.due(what + ": all are told", x.same(told, other), true);
+    }
+
+    /** Vectors and all else are the same, but one has removed a dot. */
+    private static void eachRemovedDotCountsAlone() {
+        for (int maker = 0; maker < 6; maker++) {
+            for (int k = 0; k < 64; k++) {
+                DotGossip x = new DotGossip();
+                x.open(6);
+                x.add(maker, k / 16, k % 16);
+                int told = (maker + 1) % 6;
+                x.gossip(maker, told);
+                x.deliver(0);
+                x.remove(told, k / 16, k % 16);
+                Check.due("removed there", x.same(maker, told), false);
+                Check.due("had here", x.same(told, maker), false);
+                x.gossip(told, maker);
+                x.deliver(0);
+                Check.due("removed here, too", x.same(maker, told), true);
+            }
+        }
     }
 
     private static void sameAfterGossip() {

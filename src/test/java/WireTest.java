@@ -19,6 +19,7 @@ public final class WireTest {
         deliverTakesTheMessageAway();
         drops();
         copies();
+        copyHasWhatWasSent();
         turns();
         asksMessages();
         wrongMessages();
@@ -248,6 +249,30 @@ public final class WireTest {
         full.drop(0);
         Check.due("copy with room for one", full.copy(98), true);
         Check.due("100 again", full.message(0, -2), 100);
+    }
+
+    /** Whatever its sender or its receiver became since, it is the message once more. */
+    private static void copyHasWhatWasSent() {
+        DotGossip x = new DotGossip();
+        x.open(3);
+        x.add(0, 0, 1);
+        x.write(0, 0, 5);
+        x.count(0, 0, 3);
+        x.gossip(0, 1);
+        x.clear(0, 0);
+        x.add(0, 0, 2);
+        x.write(0, 0, 6);
+        x.count(0, 0, 4);
+        x.copy(0);
+        Check.due("its vector", x.message(1, 2), 2);
+        x.deliver(0);
+        x.turn(0, 2);
+        Check.due("its dots", x.deliver(0), 2);
+        Check.due("the element", x.contains(2, 0, 1), true);
+        Check.due("no later element", x.contains(2, 0, 2), false);
+        Check.due("the value", x.value(2, 0, 0, 2), 5);
+        Check.due("the counter", x.total(2, 0), 3);
+        Check.due("as the first one brought", x.same(1, 2), true);
     }
 
     private static void turns() {
