@@ -12,6 +12,7 @@ public final class CounterTest {
         lowestBits();
         greaterOfBoth();
         greaterBeyondAnInt();
+        bothWaysBetweenMessages();
         wrongInputs();
         Check.end();
     }
@@ -101,6 +102,29 @@ public final class CounterTest {
             x.gossip(1, 0);
             x.deliver(0);
             Check.due("back at the first", x.total(0, 0), due);
+        }
+    }
+
+    /** What was taken is not less for what is added since, nor the other way round. */
+    private static void bothWaysBetweenMessages() {
+        for (int[] by : new int[][] {{-5, 3}, {5, -3}, {-5, 5}, {5, -5}, {-5, 8}, {5, -8}, {5, -8, 4}, {-5, 8, -4}}) {
+            for (int way = 0; way < 2; way++) {
+                DotGossip x = new DotGossip();
+                int due = 0;
+                for (int much : by) {
+                    due += much;
+                    Check.due("count " + much, x.count(0, 2, much), due);
+                    x.gossip(0, 1);
+                }
+                for (int k = by.length - 1; k >= 0; k--) {
+                    x.deliver(way == 0 ? 0 : k);
+                }
+                Check.due("told in order " + way, x.total(1, 2), due);
+                Check.due("all is known", x.same(0, 1), true);
+                x.gossip(1, 0);
+                x.deliver(0);
+                Check.due("nothing comes back", x.total(0, 2), due);
+            }
         }
     }
 

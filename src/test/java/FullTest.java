@@ -24,6 +24,7 @@ public final class FullTest {
         elementWithADotOfEach();
         registerWithAValueOfEach();
         messageWithAllDots();
+        numbersBeyondAByte();
         lastCall();
         Check.end();
     }
@@ -310,6 +311,38 @@ public final class FullTest {
             Check.due("values", x.values(5, k), 5);
             Check.due("the last element's dots", x.remove(5, k, 15), 5);
         }
+    }
+
+    /** Dots, vectors, values and counts of more than 8 bits are told apart and known again. */
+    private static void numbersBeyondAByte() {
+        DotGossip x = new DotGossip();
+        for (int k = 1; k <= 299; k++) {
+            x.add(0, 0, k % 16);
+        }
+        x.write(0, 0, 1000);
+        x.count(0, 0, 1000);
+        x.count(0, 0, -3000);
+        x.gossip(0, 1);
+        x.copy(0);
+        Check.due("the message's vector", x.message(1, 2), 300);
+        Check.due("all come", x.deliver(0), 17);
+        Check.due("none comes twice", x.deliver(0), 0);
+        Check.due("all stay", x.size(1, 0), 16);
+        Check.due("the last element's number", x.dot(1, 0, 11, 0, 1), 299);
+        Check.due("the value's number", x.value(1, 0, 0, 1), 300);
+        Check.due("the value", x.value(1, 0, 0, 2), 1000);
+        Check.due("the counter", x.total(1, 0), -2000);
+        Check.due("the vector", x.vector(1, 0), 300);
+        Check.due("same", x.same(0, 1), true);
+        Check.due("the next number", x.add(0, 0, 11), 301);
+        Check.due("not the same", x.same(0, 1), false);
+        x.gossip(1, 0);
+        x.deliver(0);
+        Check.due("number 301 is above 300", x.dot(0, 0, 11, 0, 1), 301);
+        Check.due("number 298 is not, but both have it", x.dot(0, 0, 10, 0, 1), 298);
+        x.gossip(0, 1);
+        Check.due("the one comes", x.deliver(0), 1);
+        Check.due("and it alone is there", x.remove(1, 0, 11), 1);
     }
 
     /** An object is used for at most 512 calls: the last one answers as due. */

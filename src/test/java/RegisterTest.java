@@ -12,6 +12,7 @@ public final class RegisterTest {
         everyRegisterIsItsOwn();
         valuesInOrder();
         equalValuesAreTwo();
+        equalValueIsWrittenAnew();
         valueComesWithItsDot();
         valueWithoutSuch();
         wrongInputs();
@@ -101,6 +102,26 @@ public final class RegisterTest {
         x.deliver(0);
         Check.due("values", x.values(1, 0), 2);
         Check.due("write over both", x.write(1, 0, 7), 2);
+    }
+
+    /** Each writing makes a dot, also of the value that is there. */
+    private static void equalValueIsWrittenAnew() {
+        DotGossip x = new DotGossip();
+        x.write(0, 0, 7);
+        x.gossip(0, 1);
+        x.deliver(0);
+        Check.due("write where another wrote it", x.write(1, 0, 7), 1);
+        Check.due("its replica", x.value(1, 0, 0, 0), 1);
+        Check.due("its number", x.value(1, 0, 0, 1), 1);
+        Check.due("write again", x.write(0, 0, 7), 1);
+        Check.due("its next number", x.value(0, 0, 0, 1), 2);
+        Check.due("vector", x.vector(0, 0), 2);
+        x.gossip(1, 0);
+        Check.due("the other's comes", x.deliver(0), 1);
+        Check.due("both were written at the same time", x.values(0, 0), 2);
+        Check.due("write over both", x.write(0, 0, 7), 2);
+        Check.due("the new one's number", x.value(0, 0, 0, 1), 3);
+        Check.due("and it alone", x.values(0, 0), 1);
     }
 
     private static void valueComesWithItsDot() {

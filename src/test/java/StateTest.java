@@ -6,11 +6,14 @@ public final class StateTest {
     public static void main(String[] args) {
         vectorTellsWhatWasSeen();
         vectorNeverFalls();
+        vectorOfSix();
         sameWithNothing();
         eachDifferenceCounts();
         equalLooksAreNotEnough();
         eachPlaceCountsAlone();
         eachRemovedDotCountsAlone();
+        whichDotsCounts();
+        eachNumberOfTheVectorCounts();
         sameAfterGossip();
         wrongInputs();
         Check.end();
@@ -51,6 +54,27 @@ public final class StateTest {
         Check.due("the greater one", x.vector(1, 0), 2);
         Check.due("the later dot alone", x.dot(1, 0, 0, 0, 1), 2);
         Check.due("no earlier one", x.dot(1, 0, 0, 1, 1), DotGossip.NONE);
+    }
+
+    /** Replica r makes r + 1 dots and tells the next one; the messages' vectors are the senders'. */
+    private static void vectorOfSix() {
+        DotGossip x = new DotGossip();
+        x.open(6);
+        for (int r = 0; r < 6; r++) {
+            for (int k = 0; k <= r; k++) {
+                x.add(r, k % 4, k);
+            }
+            x.gossip(r, (r + 1) % 6);
+            for (int of = 0; of < 6; of++) {
+                Check.due("message of " + r + ", for " + of, x.message(0, 2 + of), of <= r ? of + 1 : 0);
+            }
+            x.deliver(0);
+        }
+        for (int r = 0; r < 6; r++) {
+            for (int of = 0; of < 6; of++) {
+                Check.due("vector(" + r + ", " + of + ")", x.vector(r, of), r == 0 || of <= r ? of + 1 : 0);
+            }
+        }
     }
 
     private static void sameWithNothing() {
@@ -177,6 +201,62 @@ public final class StateTest {
                 Check.due("removed here, too", x.same(maker, told), true);
             }
         }
+    }
+
+    /** An element is in both, by the same vectors, but not by the same dots. */
+    private static void whichDotsCounts() {
+        DotGossip x = new DotGossip();
+        x.open(6);
+        x.add(0, 3, 15);
+        x.add(1, 3, 15);
+        // 2 has the dot of 1 alone, 3 that of 0 alone, 4 has both and 5 none; all have seen both.
+        pass(x, 0, 5);
+        x.remove(5, 3, 15);
+        pass(x, 5, 2);
+        pass(x, 1, 2);
+        pass(x, 1, 5);
+        x.remove(5, 3, 15);
+        pass(x, 1, 3);
+        x.remove(3, 3, 15);
+        pass(x, 0, 3);
+        pass(x, 0, 4);
+        pass(x, 1, 4);
+        int[][] dots = {{1, DotGossip.NONE}, {0, DotGossip.NONE}, {0, 1}, {DotGossip.NONE, DotGossip.NONE}};
+        for (int r = 2; r < 6; r++) {
+            Check.due("seen of 0", x.vector(r, 0), 1);
+            Check.due("seen of 1", x.vector(r, 1), 1);
+            Check.due("first dot", x.dot(r, 3, 15, 0, 0), dots[r - 2][0]);
+            Check.due("second dot", x.dot(r, 3, 15, 1, 0), dots[r - 2][1]);
+            for (int other = 2; other < 6; other++) {
+                Check.due("same(" + r + ", " + other + ")", x.same(r, other), r == other);
+            }
+        }
+    }
+
+    private static void pass(DotGossip x, int from, int to) {
+        x.gossip(from, to);
+        x.deliver(0);
+    }
+
+    /** No dots are left, and as many were seen, but of other replicas. */
+    private static void eachNumberOfTheVectorCounts() {
+        DotGossip x = new DotGossip();
+        x.open(3);
+        x.add(0, 0, 0);
+        x.add(0, 0, 0);
+        x.add(1, 0, 0);
+        x.add(1, 0, 0);
+        x.add(2, 0, 0);
+        x.clear(0, 0);
+        x.clear(1, 0);
+        x.clear(2, 0);
+        Check.due("2 0 0 and 0 2 0", x.same(0, 1), false);
+        Check.due("0 2 0 and 2 0 0", x.same(1, 0), false);
+        Check.due("0 2 0 and 0 0 1", x.same(1, 2), false);
+        pass(x, 0, 1);
+        Check.due("2 0 0 and 2 2 0", x.same(0, 1), false);
+        pass(x, 1, 0);
+        Check.due("2 2 0 and 2 2 0", x.same(0, 1), true);
     }
 
     private static void sameAfterGossip() {

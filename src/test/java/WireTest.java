@@ -20,7 +20,10 @@ public final class WireTest {
         drops();
         copies();
         copyHasWhatWasSent();
+        copyGoesWhereTheTurnedOneGoes();
+        copyStaysAsItWasWhenTheOtherCame();
         turns();
+        turnChangesTheReceiverAlone();
         asksMessages();
         wrongMessages();
         Check.end();
@@ -275,6 +278,67 @@ public final class WireTest {
         Check.due("as the first one brought", x.same(1, 2), true);
     }
 
+    /** Message i as it is now, so the copy of a turned message goes where that one goes. */
+    private static void copyGoesWhereTheTurnedOneGoes() {
+        DotGossip x = new DotGossip();
+        x.open(3);
+        x.add(0, 0, 1);
+        x.gossip(0, 1);
+        x.turn(0, 2);
+        x.copy(0);
+        Check.due("from whom", x.message(1, 0), 0);
+        Check.due("to whom", x.message(1, 1), 2);
+        x.copy(1);
+        Check.due("to whom the copy's copy goes", x.message(2, 1), 2);
+        Check.due("drop", x.drop(0), 2);
+        Check.due("deliver", x.deliver(0), 1);
+        Check.due("it came there", x.contains(2, 0, 1), true);
+        Check.due("and not to the first receiver", x.contains(1, 0, 1), false);
+        x.turn(0, 0);
+        x.copy(0);
+        Check.due("to its sender, too", x.message(1, 1), 0);
+    }
+
+    /** What one of two equal messages met at its receiver does not show in the other. */
+    private static void copyStaysAsItWasWhenTheOtherCame() {
+        for (int first = 0; first < 2; first++) {
+            DotGossip x = new DotGossip();
+            x.open(4);
+            x.add(0, 0, 1);
+            x.gossip(0, 1);
+            x.deliver(0);
+            x.remove(1, 0, 1);
+            x.add(1, 0, 3);
+            x.write(1, 0, 6);
+            x.count(1, 0, 100);
+            x.count(1, 0, -10);
+            x.add(0, 0, 2);
+            x.write(0, 0, 5);
+            x.count(0, 0, 4);
+            x.count(0, 0, -1);
+            x.gossip(0, 1);
+            x.copy(0);
+            Check.due("an element's and a register's dot are new", x.deliver(first), 2);
+            x.clear(1, 0);
+            x.write(1, 0, 7);
+            x.count(1, 0, 1000);
+            x.count(1, 0, -2000);
+            int[] vector = {3, 0, 0, 0};
+            for (int of = 0; of < 4; of++) {
+                Check.due("its vector for " + of, x.message(0, 2 + of), vector[of]);
+            }
+            x.turn(0, 3);
+            Check.due("all its dots come", x.deliver(0), 3);
+            Check.due("one that the other's receiver had removed", x.dot(3, 0, 1, 0, 1), 1);
+            Check.due("one that it removed since", x.dot(3, 0, 2, 0, 1), 2);
+            Check.due("none that it had", x.size(3, 0), 2);
+            Check.due("the value", x.value(3, 0, 0, 2), 5);
+            Check.due("the value alone", x.values(3, 0), 1);
+            Check.due("the counter", x.total(3, 0), 3);
+            Check.due("as its sender is", x.same(0, 3), true);
+        }
+    }
+
     private static void turns() {
         DotGossip x = new DotGossip();
         three(x);
@@ -292,6 +356,37 @@ public final class WireTest {
         Check.due("and takes nothing away", x.value(1, 0, 0, 2), 6);
         x.turn(0, 0);
         Check.due("to the same as before", x.message(0, 1), 0);
+    }
+
+    /** However often it is turned, and to its sender, too, it has what was sent. */
+    private static void turnChangesTheReceiverAlone() {
+        DotGossip x = new DotGossip();
+        x.open(4);
+        x.add(1, 0, 3);
+        x.gossip(1, 0);
+        x.deliver(0);
+        x.add(0, 0, 1);
+        x.write(0, 0, 5);
+        x.count(0, 0, 3);
+        x.gossip(0, 1);
+        x.clear(0, 0);
+        x.write(0, 0, 6);
+        x.count(0, 0, 4);
+        int[] vector = {2, 1, 0, 0};
+        for (int to : new int[] {0, 1, 2, 0, 3, 3}) {
+            x.turn(0, to);
+            Check.due("from whom", x.message(0, 0), 0);
+            Check.due("to whom", x.message(0, 1), to);
+            for (int of = 0; of < 4; of++) {
+                Check.due("its vector for " + of, x.message(0, 2 + of), vector[of]);
+            }
+        }
+        Check.due("one message", x.message(0, -2), 1);
+        Check.due("its dots", x.deliver(0), 3);
+        Check.due("its own element", x.contains(3, 0, 1), true);
+        Check.due("another's element", x.contains(3, 0, 3), true);
+        Check.due("the value", x.value(3, 0, 0, 2), 5);
+        Check.due("the counter", x.total(3, 0), 3);
     }
 
     private static void asksMessages() {
