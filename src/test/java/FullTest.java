@@ -23,6 +23,8 @@ public final class FullTest {
         fullSet();
         elementWithADotOfEach();
         registerWithAValueOfEach();
+        allRegistersWithAValueOfEach();
+        allCountersWithCountsOfEach();
         messageWithAllDots();
         numbersBeyondAByte();
         lastCall();
@@ -278,11 +280,59 @@ public final class FullTest {
         }
     }
 
+    /** Promises 6, 9 and 16: 24 values, each told by its own register and dot. */
+    private static void allRegistersWithAValueOfEach() {
+        for (int at = 0; at < 6; at++) {
+            DotGossip x = new DotGossip();
+            x.open(6);
+            for (int r = 0; r < 6; r++) {
+                for (int g = 0; g < 4; g++) {
+                    x.write(r, g, 10 * g + r + 1);
+                }
+            }
+            gather(x, at, 4);
+            for (int g = 0; g < 4; g++) {
+                for (int i = 0; i < 6; i++) {
+                    Check.due("replica of dot " + i, x.value(at, g, i, 0), i);
+                    Check.due("number of dot " + i, x.value(at, g, i, 1), g + 1);
+                    Check.due("value of dot " + i, x.value(at, g, i, 2), 10 * g + i + 1);
+                }
+            }
+        }
+    }
+
+    /** Promises 7, 9 and 18: what each replica added and took, of each counter. */
+    private static void allCountersWithCountsOfEach() {
+        for (int at = 0; at < 6; at++) {
+            DotGossip x = new DotGossip();
+            x.open(6);
+            int[] due = new int[4];
+            for (int r = 0; r < 6; r++) {
+                for (int c = 0; c < 4; c++) {
+                    int added = 1 << (4 * c + r);
+                    int taken = 3 << (16 - c + r);
+                    x.count(r, c, added);
+                    x.count(r, c, -taken);
+                    due[c] += added - taken;
+                }
+            }
+            gather(x, at, 0);
+            for (int c = 0; c < 4; c++) {
+                Check.due("total", x.total(at, c), due[c]);
+                Check.due("count one more", x.count(at, c, 1), due[c] + 1);
+            }
+        }
+    }
+
     private static void gather(DotGossip x, int at) {
+        gather(x, at, 1);
+    }
+
+    private static void gather(DotGossip x, int at, int come) {
         for (int r = 0; r < 6; r++) {
             if (r != at) {
                 x.gossip(r, at);
-                Check.due("a dot comes", x.deliver(0), 1);
+                Check.due("dots that come", x.deliver(0), come);
             }
         }
     }

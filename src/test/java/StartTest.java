@@ -5,6 +5,7 @@ public final class StartTest {
 
     public static void main(String[] args) {
         newObject();
+        objectsAreApart();
         openEachNumber();
         openForgetsAll();
         openRefuses();
@@ -18,6 +19,37 @@ public final class StartTest {
         hasNothing("new", x, 2);
         Check.illegal("new: replica 2", y -> { }, y -> y.vector(2, 0));
         Check.alike("new is as open(2)", y -> { }, y -> y.open(2));
+    }
+
+    /** A new object has nothing of another one, takes nothing from it and adds nothing to it. */
+    private static void objectsAreApart() {
+        DotGossip x = new DotGossip();
+        x.open(3);
+        x.add(0, 0, 3);
+        x.write(1, 1, 7);
+        x.count(2, 2, 5);
+        x.gossip(0, 1);
+        DotGossip y = new DotGossip();
+        Check.due("the new one's replicas", y.message(0, DotGossip.NONE), 2);
+        Check.due("the new one's messages", y.message(0, -2), 0);
+        hasNothing("the new one", y, 2);
+        y.open(4);
+        Check.due("the new one's first number", y.add(0, 0, 3), 1);
+        y.clear(0, 0);
+        y.write(1, 1, 8);
+        y.count(2, 2, 6);
+        y.gossip(3, 2);
+        y.drop(0);
+        Check.due("the first one's replicas", x.message(0, DotGossip.NONE), 3);
+        Check.due("its messages", x.message(0, -2), 1);
+        Check.due("its message's vector", x.message(0, 2), 1);
+        Check.due("its element", x.dot(0, 0, 3, 0, 1), 1);
+        Check.due("its value", x.value(1, 1, 0, 2), 7);
+        Check.due("its counter", x.total(2, 2), 5);
+        Check.due("its vector", x.vector(0, 0), 1);
+        Check.due("its message comes", x.deliver(0), 1);
+        Check.due("at its receiver", x.contains(1, 0, 3), true);
+        Check.due("and nowhere else", y.contains(1, 0, 3), false);
     }
 
     private static void hasNothing(String when, DotGossip x, int replicas) {
